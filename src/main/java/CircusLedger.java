@@ -629,7 +629,6 @@ public final class CircusLedger {
             strengths[acrobat] = strength;
             heights[acrobat] = height;
             wages[acrobat] = wage;
-            nightsToHeal[acrobat] = 0;
             count++;
             return acrobat;
         }
@@ -810,9 +809,8 @@ public final class CircusLedger {
             System.arraycopy(other.amounts, 0, amounts, 0, MAX_ENTRIES);
         }
 
+        /** The rows hold 0 for accounts that are still to come, since nothing is booked on them. */
         void openAccount() {
-            balances[accounts] = 0;
-            balancesAtClosing[accounts] = 0;
             accounts++;
         }
 
@@ -959,7 +957,6 @@ public final class CircusLedger {
         int fewestBySets(Books books) {
             takeOpenBalances(books);
             int sets = 1 << count;
-            groups[0] = 0;
             for (int set = 1; set < sets; set++) {
                 groups[set] = mostGroupsWithoutOne(set) + (sums[set] == 0 ? 1 : 0);
             }
@@ -982,7 +979,6 @@ public final class CircusLedger {
                     count++;
                 }
             }
-            sums[0] = 0;
             for (int i = 0; i < count; i++) {
                 for (int set = 0; set < (1 << i); set++) {
                     sums[set | (1 << i)] = sums[set] + open[i];
@@ -1001,8 +997,8 @@ public final class CircusLedger {
         }
 
         /**
-         * Returns the fewest transfers when the accounts of a set are untouched and the account settled last
-         * has passed its balance on to one other, which is therefore what the untouched ones lack to 0.
+         * Returns the fewest transfers that settle the untouched accounts and the one that has taken over the
+         * balances settled so far. As all balances add up to 0, the untouched ones tell what that one has.
          */
         private static int fewestFor(Settling all, int untouched, int depth) {
             if (untouched == 0 || depth > MAX_ACCOUNTS) {

@@ -150,6 +150,14 @@ public final class AccountsTest {
         fewest("one for all", one, 3);
         one.post(1, 3, 11);
         fewest("not with the first that fits", one, 4);
+        CircusLedger coins = Make.evenTrio();
+        coins.post(3, 2, 1);
+        coins.post(4, 2, 1);
+        fewest("single coins", coins, 2);
+        coins.cancel(3, 2);
+        Check.same("40 before the other way", 1, coins.fewestTransfersBySearch());
+        coins.undo();
+        Check.same("40 before the other way again", 2, coins.fewestTransfersBySearch());
     }
 
     private static void fewestTransfersOfAllAccounts() {
@@ -224,6 +232,10 @@ public final class AccountsTest {
         }
         double sum = 1 + 12 * 9998 - 66;
         mean("great ones", c, sum / 5);
+        CircusLedger six = Make.strongSix();
+        six.post(0, 2, 6);
+        six.post(10, 2, 3);
+        mean("the first and the last account", six, 4.5);
     }
 
     private static void mean(String what, CircusLedger c, double due) {

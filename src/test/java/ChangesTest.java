@@ -142,6 +142,9 @@ public final class ChangesTest {
         rich.undo();
         rich.post(4, 5, 20);
         Check.same("4 negative afterwards", -13, rich.payOut(0, 7));
+        CircusLedger six = Make.withEntries(Make.funded(Make.strongSix(), 50, 0), 59);
+        Check.same("4 the last acrobat and the last entry", 50, six.payOut(5, 50));
+        Check.same("4 the last account", 50, six.balance(10));
     }
 
     private static void payOutRefuses() {
@@ -210,6 +213,10 @@ public final class ChangesTest {
         Check.same("5 poor: damages", -20, poor.show(15));
         Check.same("5 poor: no entry", 0, poor.entryCount());
         Check.same("5 poor: the fall counts", 2, poor.fallenTotal());
+        CircusLedger coins = Make.funded(Make.weakFour(), 1, 1);
+        Check.same("5 single coins: damages", -20, coins.show(15));
+        Check.same("5 single coins: entries", 2, coins.entryCount());
+        Check.same("5 single coins: booked", 2, coins.balance(3));
         CircusLedger exact = Make.funded(Make.weakFour(), 9, 20);
         exact.show(15);
         Check.same("5 exact: one entry", 1, exact.entryCount());
@@ -270,6 +277,10 @@ public final class ChangesTest {
         CircusLedger rich = Make.withEntries(Make.funded(Make.weakFour(), 100, 5), 59);
         Check.refused("5 two entries do not fit", IllegalStateException.class, () -> rich.show(15));
         Check.same("5 nobody fell", 0, rich.fallenTotal());
+        CircusLedger fits = Make.withEntries(Make.funded(Make.weakFour(), 100, 5), 58);
+        Check.same("5 two entries fit", -20, fits.show(15));
+        CircusLedger coins = Make.withEntries(Make.funded(Make.weakFour(), 1, 1), 59);
+        Check.refused("5 two coins do not fit", IllegalStateException.class, () -> coins.show(15));
         CircusLedger safe = Make.withEntries(Make.funded(Make.weakFour(), 100, 20), 59);
         Check.same("5 one entry fits", -20, safe.show(15));
     }
@@ -337,6 +348,11 @@ public final class ChangesTest {
         rich.post(5, 6, 40);
         Check.same("9 the positive one is smaller", 10, rich.cancel(3, 6));
         Check.same("9 the negative one keeps the rest", -30, rich.balance(6));
+        CircusLedger last = Make.withEntries(new CircusLedger(), 59);
+        Check.same("9 the last entry", 59, last.cancel(2, 3));
+        Check.same("9 the journal is full", 60, last.entryCount());
+        CircusLedger coin = Make.withEntries(new CircusLedger(), 1);
+        Check.same("9 one coin", 1, coin.cancel(3, 2));
     }
 
     private static void cancelRefuses() {

@@ -239,7 +239,8 @@ public final class ColumnsTest {
         CircusLedger weak = Make.weakFour();
         safe("no strength at the top", weak, 9, 7.5f);
         safe("a column that falls", weak, 15, 20f / 90f);
-        safe("a third", weak, 5, 0.25f);
+        safe("a quarter", weak, 5, 0.25f);
+        safe("a weak one who is not in the set", weak, 10, 300f / 70f);
         CircusLedger zero = new CircusLedger();
         zero.addAcrobat(90, 0, 100, 1);
         zero.addAcrobat(70, 0, 100, 1);

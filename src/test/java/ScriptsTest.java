@@ -220,6 +220,10 @@ public final class ScriptsTest {
         wrong("ne", 2);
         wrong("ni", 2);
         wrong("net", 3);
+        wrong("net ", 4);
+        wrong("net ;", 4);
+        wrong("pay  5", 4);
+        wrong("pay ", 4);
         wrong("net 10", 5);
         wrong("net -1", 4);
         wrong("nigh", 4);

@@ -12,6 +12,7 @@ public final class UndoTest {
         sameStateIsAChange();
         othersAreNoChanges();
         saveAndRestore();
+        restoreEveryPart();
         restoreRefuses();
         Check.finish();
     }
@@ -146,6 +147,33 @@ public final class UndoTest {
         c.setNet(3);
         Check.same("57 undo leaves the snapshot", 5, c.restore());
         Check.same("57 its net", 1, c.net());
+    }
+
+    private static void restoreEveryPart() {
+        CircusLedger c = new CircusLedger();
+        c.addAcrobat(60, 90, 150, 10);
+        c.post(3, 2, 1);
+        c.save();
+        String saved = Make.state(c);
+        c.undo();
+        c.undo();
+        c.addAcrobat(61, 91, 151, 11);
+        c.post(4, 5, 2);
+        c.save();
+        String other = Make.state(c);
+        c.undo();
+        c.undo();
+        c.addAcrobat(60, 90, 150, 10);
+        c.post(3, 2, 1);
+        Check.same("57 as saved first", saved, Make.state(c));
+        c.restore();
+        Check.same("57 as saved later", other, Make.state(c));
+        c.closeBooks();
+        c.post(0, 3, 7);
+        c.undo();
+        c.undo();
+        Check.same("55 the journal is back", other, Make.state(c));
+        Check.same("55 so are the balances", true, c.isConsistent());
     }
 
     private static void restoreRefuses() {
