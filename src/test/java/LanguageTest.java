@@ -6,10 +6,11 @@ import java.util.regex.Pattern;
 
 /** What LANGUAGE.md rules out and what a look at the words of the program can tell. */
 public final class LanguageTest {
-    private static final String[] RULED_OUT = {"->", "::", "\\btry\\b", "\\bcatch\\b", "\\bfinally\\b", "\\bassert\\b",
-        "\\bsynchronized\\b", "\\w+Exact\\b", "\\bFloat\\.", "\\bDouble\\.", "\\bSystem\\.(?!arraycopy\\b)", "\\bThread\\b",
-        "\\bString\\.format\\b", "\\.equals\\(", "\\.hashCode\\(", "\\.getMessage\\(", "\" \\+", "\\+ \"",
-        "\\bnumberOfTrailingZeros\\b", "\\bwhile \\(true\\)", "for \\(;;"};
+    private static final String[] RULED_OUT = {"(?m)^(?!\\s*(case|default)\\b).*->", "::", "\\bfinally\\b",
+        "\\bcatch \\((ArrayIndexOutOfBounds|NullPointer|ClassCast|NegativeArraySize|ArrayStore)",
+        "\\bcatch \\((Exception|Throwable)\\b", "\\bassert\\b", "\\bsynchronized\\b", "\\w+Exact\\b", "\\bFloat\\.",
+        "\\bDouble\\.", "\\bSystem\\.(?!arraycopy\\b)", "\\bThread\\b", "\\bString\\.format\\b", "\\.equals\\(",
+        "\\.hashCode\\(", "\\.getMessage\\(", "\" \\+", "\\+ \"", "\\bwhile \\(true\\)", "for \\(;;"};
     private static final int LONGEST_METHOD = 60;
 
     public static void main(String[] args) throws IOException {

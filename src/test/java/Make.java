@@ -37,13 +37,64 @@ final class Make {
         return circus;
     }
 
-    /** A new circus with coins in cash (against takings) and in the reserve. */
+    /**
+     * A circus in which every part holds something, with the first four acrobats as weakFour makes them: the column
+     * of all has fallen, acrobat 0 is injured for one more night, and eight changes can be undone (the latest one sets
+     * the net). Balances: cash 26, reserve 5, takings -60, damages 20, wages 0, acrobats 0, -8, 8 and 9. Journal:
+     * "3>1=20", "8>0=9", "7>6=8". The output text is "8>0=9", the error position 4, the failed command 1, and the
+     * script "net 3;night" is typed but not run. The snapshot was taken on night 1.
+     */
+    static CircusLedger lively() {
+        return lively("net 3;night");
+    }
+
+    static CircusLedger lively(String script) {
+        CircusLedger circus = funded(weakFour(), 35, 25);
+        circus.setNet(1);
+        circus.show(15);
+        circus.save();
+        circus.payOut(3, 9);
+        Check.outcome(() -> run(circus, "net x"));
+        Check.outcome(() -> run(circus, "night;net 9"));
+        circus.passNights(1);
+        circus.post(7, 6, 8);
+        circus.closeBooks();
+        circus.undo();
+        circus.setNet(2);
+        circus.renderEntry(1);
+        type(circus, script);
+        return circus;
+    }
+
+    /** The lively circus with a journal that is full up to a number of entries. */
+    static CircusLedger livelyWithEntries(int entries) {
+        return withEntries(lively(), entries);
+    }
+
+    /** The lively circus with two more acrobats, who are as strong as they may be. */
+    static CircusLedger livelySix() {
+        CircusLedger circus = lively();
+        circus.addAcrobat(120, 400, 200, 50);
+        circus.addAcrobat(120, 400, 200, 50);
+        return circus;
+    }
+
+    /** The circus of a number of acrobats, none of whom can carry anyone. */
+    static CircusLedger helpless(int acrobats) {
+        CircusLedger circus = new CircusLedger();
+        for (int i = 0; i < acrobats; i++) {
+            circus.addAcrobat(30, 0, 100, 1);
+        }
+        return circus;
+    }
+
+    /** A circus with coins in cash and in the reserve, both against takings. */
     static CircusLedger funded(CircusLedger circus, int cash, int reserve) {
-        if (cash + reserve > 0) {
-            circus.post(0, 2, cash + reserve);
+        if (cash > 0) {
+            circus.post(0, 2, cash);
         }
         if (reserve > 0) {
-            circus.post(1, 0, reserve);
+            circus.post(1, 2, reserve);
         }
         circus.closeBooks();
         return circus;
@@ -74,6 +125,13 @@ final class Make {
             text.append(circus.outputAt(i));
         }
         return text.toString();
+    }
+
+    /** Enough of the state to tell it from those before and behind it. */
+    static String briefState(CircusLedger c) {
+        return c.night() + "," + c.net() + "," + c.showTotal() + "," + c.fallenTotal() + "," + c.accountCount() + ","
+                + c.entryCount() + "," + c.bestColumn() + "," + c.balance(0) + "," + c.balance(1) + "," + c.balance(2)
+                + "," + c.balance(3) + "," + c.balance(4) + "," + c.debits(3) + "," + c.isConsistent();
     }
 
     /** All that undo and the snapshot cover, as far as the face tells it. */
