@@ -100,7 +100,8 @@ public final class LastCallsTest {
         Check.same("53 empty script", 0, c.errorPosition());
         CircusLedger typed = new CircusLedger();
         for (int i = 0; i < 8; i++) {
-            Check.same("52 a full buffer", 4, Make.run(typed, "post 0000>0002 9999;post 0000>0002 9999;close;post 0>02 9999"));
+            Check.same("52 a full buffer", 4,
+                    Make.run(typed, "post 0000>0002 9999;post 0000>0002 9999;close;post 0>02 9999"));
         }
         Check.same("30 after 488 calls", 8 * 3 * 9999, typed.balance(0));
     }

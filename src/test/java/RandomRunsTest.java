@@ -15,7 +15,8 @@ public final class RandomRunsTest {
         Integer.MAX_VALUE - 1, Integer.MAX_VALUE};
     private static final String[] CHANGES = {"addAcrobat", "post", "payOut", "show", "setNet", "passNights",
         "closeBooks", "cancel", "undo", "save", "restore", "renderColumn", "renderEntry"};
-    private static final String[] COMMANDS = {"acrobat ", "post ", "pay ", "show ", "net ", "night", "close", "cancel "};
+    private static final String[] COMMANDS = {"acrobat ", "post ", "pay ", "show ", "net ", "night", "close",
+        "cancel "};
 
     private static final Method[] METHODS = CircusLedger.class.getDeclaredMethods();
 

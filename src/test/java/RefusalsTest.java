@@ -356,7 +356,8 @@ public final class RefusalsTest {
         for (int count = 0; count <= 6; count++) {
             int acrobats = count;
             for (int account : new int[] {-1, 5 + count, 6 + count, LEAST, GREATEST}) {
-                noSuchAccount("with " + count + " acrobats, account " + account, () -> Make.helpless(acrobats), account);
+                noSuchAccount("with " + count + " acrobats, account " + account, () -> Make.helpless(acrobats),
+                        account);
             }
         }
         noSuchAccount("of a lively circus", Make::lively, 9);

@@ -118,7 +118,8 @@ public final class ScriptsTest {
         Check.same("55 all of it", 0, c.night());
         Check.same("52 a show of all", 1, Make.run(c, "show 0123"));
         Check.same("52 they fell", 2, c.fallenTotal());
-        Check.same("52 sixty characters", 4, Make.run(c, "post 0000>0002 0050;post 0000>0002 0050;close;post 0>02 0050"));
+        Check.same("52 sixty characters", 4,
+                Make.run(c, "post 0000>0002 0050;post 0000>0002 0050;close;post 0>02 0050"));
         Check.same("52 all of them", 150, c.balance(0));
     }
 

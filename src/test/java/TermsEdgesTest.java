@@ -43,9 +43,11 @@ public final class TermsEdgesTest {
         theJournalTakesSixtyEntries();
         closingEmptiesTheJournalAndKeepsTheBalances();
         cancelTakesTheSmallerOne();
+        cancelOfSingleCoins();
         ranksOfEqualBalancesGoByNumber();
         meanOfThePositiveOnly();
         transfersOfFewAccounts();
+        transfersOfSingleCoins();
     }
 
     private static void shows() {
@@ -514,6 +516,36 @@ public final class TermsEdgesTest {
         }
     }
 
+    /** The least balances that have a sign are 1 and -1, with either of them as the first account. */
+    private static void cancelOfSingleCoins() {
+        int[][] balances = {{1, -1}, {1, -2}, {2, -1}, {2, -2}};
+        for (int[] pair : balances) {
+            for (int first = 5; first <= 6; first++) {
+                CircusLedger c = Make.helpless(2);
+                c.post(5, 2, pair[0]);
+                c.post(3, 6, -pair[1]);
+                String what = pair[0] + " and " + pair[1] + ", first " + first;
+                int due = Math.min(pair[0], -pair[1]);
+                Check.same("9 amount of " + what, due, c.cancel(first, 11 - first));
+                Check.same("9 entry of " + what, "6>5=" + due, Make.output(c, c.renderEntry(2)));
+                Check.same("9 the positive one of " + what, pair[0] - due, c.balance(5));
+                Check.same("9 the negative one of " + what, pair[1] + due, c.balance(6));
+            }
+        }
+    }
+
+    private static void transfersOfSingleCoins() {
+        CircusLedger c = Make.helpless(3);
+        c.post(5, 6, 1);
+        c.post(5, 7, 1);
+        transfers(c, 2);
+        c.post(2, 5, 1);
+        transfers(c, 2);
+        c.post(5, 3, 1);
+        c.post(5, 4, 1);
+        transfers(c, 4);
+    }
+
     private static void ranksOfEqualBalancesGoByNumber() {
         CircusLedger c = Make.helpless(6);
         int[] due = {10, 4, 0, 1, 3, 6, 7, 8, 9, 2, 5};
@@ -586,13 +618,13 @@ public final class TermsEdgesTest {
                 Check.same("5 reserve" + what, reserve - byReserve, c.balance(1));
                 Check.same("5 cash" + what, cash - byCash, c.balance(0));
                 Check.same("5 booked" + what, byReserve + byCash, c.balance(3));
-                StringBuilder due = new StringBuilder();
-                due.append(byReserve > 0 ? "3>1=" + byReserve + " " : "").append(byCash > 0 ? "3>0=" + byCash + " " : "");
+                String due = (byReserve > 0 ? "3>1=" + byReserve + " " : "")
+                        + (byCash > 0 ? "3>0=" + byCash + " " : "");
                 StringBuilder got = new StringBuilder();
                 for (int i = 0; i < c.entryCount(); i++) {
                     got.append(Make.output(c, c.renderEntry(i))).append(' ');
                 }
-                Check.same("5 entries" + what, due.toString(), got.toString());
+                Check.same("5 entries" + what, due, got.toString());
                 Check.same("5 a fall" + what, 2, c.fallenTotal());
                 Check.same("5 a show" + what, 1, c.showTotal());
                 Check.same("5 a night" + what, 1, c.night());

@@ -10,6 +10,9 @@ import java.util.Set;
 public final class UndoEdgesTest {
     private static final int KEPT = 8;
     private static final Class<NoSuchElementException> NOT_THERE = NoSuchElementException.class;
+    /** What undo and the snapshot do not cover, as far as the state behind it does not show in it. */
+    private static final Set<Twin.View> NOT_COVERED = EnumSet.of(Twin.View.OUTPUT, Twin.View.ERROR_POSITION,
+            Twin.View.FAILED_COMMAND, Twin.View.SCRIPT_LENGTH, Twin.View.SNAPSHOT);
 
     public static void main(String[] args) {
         eachKindOfCallIsOneChange();
@@ -171,9 +174,6 @@ public final class UndoEdgesTest {
     private static Set<Twin.View> allBut(Twin.View... changed) {
         return EnumSet.complementOf(EnumSet.copyOf(List.of(changed)));
     }
-
-    private static final Set<Twin.View> NOT_COVERED = EnumSet.of(Twin.View.OUTPUT, Twin.View.ERROR_POSITION,
-            Twin.View.FAILED_COMMAND, Twin.View.SCRIPT_LENGTH, Twin.View.SNAPSHOT);
 
     private static void undoLeavesWhatItDoesNotCover() {
         for (int steps = 1; steps <= KEPT; steps++) {
