@@ -965,9 +965,8 @@ public final class CircusLedger {
 
         int fewestBySearch(Books books) {
             takeOpenBalances(books);
-            int sets = 1 << count;
-            Arrays.fill(transfers, 0, sets, UNKNOWN);
-            return fewestFor(this, sets - 1, 0);
+            Arrays.fill(transfers, UNKNOWN);
+            return fewestFor(this, (1 << count) - 1, 0);
         }
 
         /** Accounts whose balance is 0 need no transfer and help no other one. */
@@ -1027,7 +1026,7 @@ public final class CircusLedger {
 
     /**
      * The commands with their forms, in which # stands for a number, ? for a digit, * for digits that rise,
-     * and ~ for a blank and a number that may be left out.
+     * and ~ for a blank and a number that may both be left out and then is 1.
      */
     private enum Command {
         ACROBAT("acrobat # # # #"),
@@ -1181,7 +1180,11 @@ public final class CircusLedger {
                 case '*':
                     return readRisingDigits();
                 case '~':
-                    return readNights();
+                    if (readSign(' ')) {
+                        return readNumber();
+                    }
+                    addArgument(1);
+                    return true;
                 default:
                     return readSign(part);
             }
@@ -1232,14 +1235,6 @@ public final class CircusLedger {
             }
             addArgument(set);
             return set != 0;
-        }
-
-        private boolean readNights() {
-            if (readSign(' ')) {
-                return readNumber();
-            }
-            addArgument(1);
-            return true;
         }
 
         private void addArgument(int value) {
